@@ -324,16 +324,16 @@ public final class WordBreaker {
             this.used = 0;
         }
 
-        boolean add(int number) {
+        // What goes beyond the limit is left out: those who add count for themselves.
+        void add(int number) {
             if (used >= limit) {
-                return false;
+                return;
             }
             if (used >= cells.length) {
                 cells = Arrays.copyOf(cells, Math.min(limit, 2 * cells.length));
             }
             cells[used] = number;
             used++;
-            return true;
         }
 
         int get(int i) {

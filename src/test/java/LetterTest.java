@@ -51,6 +51,22 @@ public final class LetterTest {
         Check.due("letter(255, 63)", x.letter(255, 63), true);
         Check.due("letter(1, 1)", x.letter(1, 1), true);
         Check.dueWord(x, "\u0001\u00FF", 0);
+        lastLetter();
+    }
+
+    private static void lastLetter() {
+        WordBreaker x = new WordBreaker();
+        x.least(1, 1);
+        x.letter('#', 63);
+        x.letter('+', 62);
+        Check.duePatterns(x, "#1a +2a", 2);
+        Check.duePatterns(x, "#a", -30000);
+        Check.dueWords(x, "#-# ++-#", 2);
+        Check.dueWord(x, "+a#a", 1);
+        Check.dueValues(x, "201");
+        Check.dueWord(x, "##", 1);
+        Check.dueWord(x, "++#", 1);
+        Check.duePlaces(x, "2");
     }
 
     private static void noLetterAnyMore() {

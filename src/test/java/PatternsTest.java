@@ -131,6 +131,11 @@ public final class PatternsTest {
         Check.duePatterns(x, "b1c c2a", 2);
         Check.dueWord(x, "abca", 2);
         Check.dueValues(x, "112");
+        x = new WordBreaker();
+        Check.duePatterns(x, ".c1b. d1. .", -10011);
+        Check.duePatterns(x, "c4b 6d", 2);
+        Check.dueWord(x, "acbd", 0);
+        Check.dueValues(x, "046");
     }
 
     /** 1000 different patterns in 3432 characters. */
@@ -179,7 +184,9 @@ public final class PatternsTest {
             Check.patterns(x, longPattern(i, 63));
         }
         Check.due("count(false)", x.count(false), 126);
-        Check.duePatterns(x, longPattern(126, 61) + " y", 2);
+        Check.duePatterns(x, longPattern(126, 61) + "7 8y", 2);
+        Check.dueWord(x, longPattern(126, 61) + "y", 0);
+        Check.due("value(61)", x.value(61), 8);
         Check.duePatterns(x, "x", -40000);
         Check.duePatterns(x, "y", -30000);
         Check.due("count(false)", x.count(false), 128);
