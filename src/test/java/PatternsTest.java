@@ -138,27 +138,8 @@ public final class PatternsTest {
         Check.dueValues(x, "046");
     }
 
-    /** 1000 different patterns in 3432 characters. */
-    private static String thousand() {
-        StringBuilder all = new StringBuilder();
-        int n = 0;
-        for (char a = 'a'; a <= 'z'; a++) {
-            for (char b = 'a'; b <= 'z'; b++) {
-                all.append(a).append(b).append(' ');
-                n++;
-            }
-        }
-        for (char a = 'a'; a <= 'z' && n < 1000; a++) {
-            for (char b = 'a'; b <= 'z' && n < 1000; b++) {
-                all.append('.').append(a).append(b).append(' ');
-                n++;
-            }
-        }
-        return all.toString();
-    }
-
     private static void mostPatterns() {
-        String all = thousand();
+        String all = Texts.thousandPatterns();
         WordBreaker x = new WordBreaker();
         Check.duePatterns(x, all + "q", -40000 - all.length());
         Check.due("count(false)", x.count(false), 0);
@@ -181,11 +162,11 @@ public final class PatternsTest {
     private static void mostLetters() {
         WordBreaker x = new WordBreaker();
         for (int i = 0; i < 126; i++) {
-            Check.patterns(x, longPattern(i, 63));
+            Check.patterns(x, Texts.different(i, 63));
         }
         Check.due("count(false)", x.count(false), 126);
-        Check.duePatterns(x, longPattern(126, 61) + "7 8y", 2);
-        Check.dueWord(x, longPattern(126, 61) + "y", 0);
+        Check.duePatterns(x, Texts.different(126, 61) + "7 8y", 2);
+        Check.dueWord(x, Texts.different(126, 61) + "y", 0);
         Check.due("value(61)", x.value(61), 8);
         Check.duePatterns(x, "x", -40000);
         Check.duePatterns(x, "y", -30000);
@@ -193,11 +174,5 @@ public final class PatternsTest {
         Check.dueWords(x, "told", 1);
         x.clear(false);
         Check.duePatterns(x, "x", 1);
-    }
-
-    private static String longPattern(int i, int length) {
-        char first = (char) ('a' + i / 26);
-        char second = (char) ('a' + i % 26);
-        return ("" + first + second + LONG).substring(0, length);
     }
 }

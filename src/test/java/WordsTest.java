@@ -110,15 +110,12 @@ public final class WordsTest {
     }
 
     private static void mostWords() {
-        StringBuilder all = new StringBuilder();
-        for (int i = 0; i < 300; i++) {
-            all.append((char) ('a' + i / 26)).append((char) ('a' + i % 26)).append("x ");
-        }
+        String all = Texts.threeHundredWords();
         WordBreaker x = new WordBreaker();
         x.least(1, 1);
         Check.dueWords(x, all + "q", -41200);
         Check.due("count(true)", x.count(true), 0);
-        Check.dueWords(x, all.toString(), 300);
+        Check.dueWords(x, all, 300);
         Check.dueWords(x, "aa-x b-b-x aax", 3);
         Check.dueWords(x, "a-a-x q", -40006);
         Check.dueWords(x, "q!", -10001);
@@ -136,19 +133,13 @@ public final class WordsTest {
     private static void mostLetters() {
         WordBreaker x = new WordBreaker();
         for (int i = 0; i < 126; i++) {
-            Check.words(x, longWord(i, 63));
+            Check.words(x, Texts.different(i, 63));
         }
         Check.due("count(true)", x.count(true), 126);
-        Check.dueWords(x, longWord(126, 61) + " y", 2);
-        Check.dueWords(x, "y y " + longWord(0, 63), 3);
+        Check.dueWords(x, Texts.different(126, 61) + " y", 2);
+        Check.dueWords(x, "y y " + Texts.different(0, 63), 3);
         Check.dueWords(x, "y x", -40002);
         Check.due("count(true)", x.count(true), 128);
         Check.duePatterns(x, "x", 1);
-    }
-
-    private static String longWord(int i, int length) {
-        char first = (char) ('a' + i / 26);
-        char second = (char) ('a' + i % 26);
-        return ("" + first + second + LONG).substring(0, length);
     }
 }
