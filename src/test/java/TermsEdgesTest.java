@@ -144,6 +144,9 @@ public final class TermsEdgesTest {
         x.patterns("9" + Texts.LONGEST + "9 9a9", 2);
         x.word("bab", 0);
         x.values("99");
+        x.patterns("xyz", 1);
+        x.word("xyzxyz", 0);
+        x.values("00000");
     }
 
     private static void lengthsOfWords() {
@@ -167,6 +170,12 @@ public final class TermsEdgesTest {
         x.values("0");
         x.word("xab", 0);
         x.values("00");
+        x.word("xabb", 0);
+        x.values("000");
+        x.word("xbbc", 0);
+        x.values("000");
+        x.word("xacc", 0);
+        x.values("000");
         x.word("dd", 0);
         x.values("4");
         x.word("xbcd", 0);
