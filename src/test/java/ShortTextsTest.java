@@ -1,4 +1,4 @@
-/** Every text of a few signs, read in each of the four ways and held against PlainBreaker. */
+/** Every text of up to five signs out of seven, read in each of the four ways and held against PlainBreaker. */
 public final class ShortTextsTest {
     private static final String SIGNS = "ab1.- !";
     private static final int LONGEST = 5;
